@@ -496,7 +496,7 @@ public final class PastDraws {
             return state < root ? state : state - 1;
         }
 
-        // Bareiss: each division is exact, and products stay below 8 to the 20th, so a long holds them.
+        // Bareiss: each division is exact, and no product is above 8 to the 20th, so a long holds them all.
         private long determinant(int size) {
             long pivot = 1;
             for (int k = 0; k < size; k++) {
