@@ -1,4 +1,3 @@
-import java.util.ArrayList;
 import java.util.List;
 import java.util.Random;
 
@@ -7,19 +6,14 @@ public final class ChainTest {
   private static final int BAD = PastDraws.BAD;
   private static final int NONE = PastDraws.NONE;
 
-  private final PastDraws draws;
+  private final Renewed draws;
   private final int n;
-  private final int[][] rules;
+  private final ChainModel model;
 
   private ChainTest(int states) {
-    draws = new PastDraws(states);
+    draws = new Renewed(states);
     n = states;
-    rules = new int[8][n];
-    for (int sign = 0; sign < 8; sign++) {
-      for (int state = 0; state < n; state++) {
-        rules[sign][state] = state;
-      }
-    }
+    model = new ChainModel(n);
   }
 
   public static void main(String[] args) {
@@ -73,62 +67,11 @@ public final class ChainTest {
         } else if (kind == 2 && random.nextInt(4) != 0) {
           to = state;
         }
-        Check.due("rule(" + state + ", " + sign + ", " + to + ")", draws.rule(state, sign, to), rules[sign][state]);
-        rules[sign][state] = to;
+        Check.due("rule(" + state + ", " + sign + ", " + to + ")", draws.rule(state, sign, to), model.rules[sign][state]);
+        model.rules[sign][state] = to;
       }
     }
-    Check.due("monotone()", draws.monotone(), keepsOrder() ? 1 : 0);
-  }
-
-  private boolean keepsOrder() {
-    for (int[] rule : rules) {
-      for (int low = 0; low < n; low++) {
-        for (int high = low + 1; high < n; high++) {
-          if (rule[low] > rule[high]) {
-            return false;
-          }
-        }
-      }
-    }
-    return true;
-  }
-
-  private int signOf(int s, int t) {
-    return draws.hash(s, t) >>> 29;
-  }
-
-  private int takenTo(int s, int length, int state) {
-    int at = state;
-    for (int t = length; t >= 1; t--) {
-      at = rules[signOf(s, t)][at];
-    }
-    return at;
-  }
-
-  private int meetsIn(int s, int length) {
-    int first = takenTo(s, length, 0);
-    for (int state = 1; state < n; state++) {
-      if (takenTo(s, length, state) != first) {
-        return NONE;
-      }
-    }
-    return first;
-  }
-
-  private boolean boundsAreLike(int s, int length) {
-    int lower = 0;
-    int upper = n - 1;
-    for (int t = length; t >= 1; t--) {
-      int least = n;
-      int greatest = -1;
-      for (int state = lower; state <= upper; state++) {
-        least = Math.min(least, rules[signOf(s, t)][state]);
-        greatest = Math.max(greatest, rules[signOf(s, t)][state]);
-      }
-      lower = least;
-      upper = greatest;
-    }
-    return lower == upper;
+    Check.due("monotone()", draws.monotone(), model.keepsOrder() ? 1 : 0);
   }
 
   private void rowsOfThePast(int seeds) {
@@ -136,7 +79,7 @@ public final class ChainTest {
       for (int state = 0; state < n; state++) {
         for (int length = 1; length <= 300; length = length * 2 + 1) {
           Check.due("taken(" + s + ", " + length + ", " + state + ")", draws.taken(s, length, state),
-              takenTo(s, length, state));
+              model.takenTo(s, length, state));
         }
       }
       int[] mosts = {1, 2, 3, 4, 5, 7, 8, 15, 16, 31, 32, 63, 64};
@@ -149,13 +92,13 @@ public final class ChainTest {
   private void pastFoldBounding(int s, int most) {
     int past = NONE;
     for (int length = 1; length <= most && past == NONE; length *= 2) {
-      past = meetsIn(s, length);
+      past = model.meetsIn(s, length);
     }
     int fold = NONE;
     int bounding = NONE;
     for (int length = most; length >= 1; length--) {
-      fold = meetsIn(s, length) == NONE ? fold : length;
-      bounding = boundsAreLike(s, length) ? length : bounding;
+      fold = model.meetsIn(s, length) == NONE ? fold : length;
+      bounding = model.boundsAreLike(s, length) ? length : bounding;
     }
     String told = "(" + s + ", " + most + ") of " + n;
     Check.due("past" + told, draws.past(s, most), past);
@@ -163,44 +106,10 @@ public final class ChainTest {
     Check.due("bounding" + told, draws.bounding(s, most), bounding);
   }
 
-  private int throughBlock(int s, int length, int block, int state) {
-    int at = state;
-    for (int i = 1; i <= length; i++) {
-      at = rules[signOf(s, length * block + i)][at];
-    }
-    return at;
-  }
-
-  private boolean blockMeets(int s, int length, int block) {
-    for (int state = 1; state < n; state++) {
-      if (throughBlock(s, length, block, state) != throughBlock(s, length, block, 0)) {
-        return false;
-      }
-    }
-    return true;
-  }
-
-  private List<Integer> drawsOf(int s, int length) {
-    List<Integer> all = new ArrayList<>();
-    int there = NONE;
-    for (int block = 0; block < 500; block++) {
-      boolean meets = blockMeets(s, length, block);
-      if (there != NONE) {
-        if (meets) {
-          all.add(there);
-        }
-        there = throughBlock(s, length, block, there);
-      } else if (meets) {
-        there = throughBlock(s, length, block, 0);
-      }
-    }
-    return all;
-  }
-
   private void blocks(int s) {
     int[] lengths = {1, 2, 3, 4, 5, 6, 8, 13, 32, 64};
     for (int length : lengths) {
-      List<Integer> all = drawsOf(s, length);
+      List<Integer> all = model.drawsOf(s, length);
       for (int k = 0; k < 100; k += k < 10 ? 1 : 7) {
         Check.due("once(" + s + ", " + length + ", " + k + ") of " + n, draws.once(s, length, k),
             k < all.size() ? all.get(k) : NONE);
@@ -222,7 +131,7 @@ public final class ChainTest {
     }
     for (int sign = 0; sign < 8; sign++) {
       for (int state = 0; state < n; state++) {
-        Check.due("rule unchanged", draws.rule(state, sign, rules[sign][state]), rules[sign][state]);
+        Check.due("rule unchanged", draws.rule(state, sign, model.rules[sign][state]), model.rules[sign][state]);
       }
     }
     int[] wrongMosts = {0, -1, Integer.MIN_VALUE, 4097, Integer.MAX_VALUE};
@@ -253,7 +162,7 @@ public final class ChainTest {
     test.ruleBoth(0, 7, 1);
     for (int s = 0; s < 6; s++) {
       int least = 1;
-      while (least <= 4096 && test.meetsIn(s, least) == NONE) {
+      while (least <= 4096 && test.model.meetsIn(s, least) == NONE) {
         least++;
       }
       Check.holds("a long row meets, " + least, least > 32 && least < 2048);
@@ -261,16 +170,16 @@ public final class ChainTest {
       Check.due("fold(" + s + ", 4096)", test.draws.fold(s, 4096), least);
       Check.due("fold(" + s + ", least)", test.draws.fold(s, least), least);
       Check.due("fold(" + s + ", least - 1)", test.draws.fold(s, least - 1), NONE);
-      Check.due("past(" + s + ", 4096)", test.draws.past(s, 4096), test.meetsIn(s, power));
-      Check.due("past(" + s + ", power)", test.draws.past(s, power), test.meetsIn(s, power));
+      Check.due("past(" + s + ", 4096)", test.draws.past(s, 4096), test.model.meetsIn(s, power));
+      Check.due("past(" + s + ", power)", test.draws.past(s, power), test.model.meetsIn(s, power));
       Check.due("past(" + s + ", power - 1)", test.draws.past(s, power - 1), NONE);
-      Check.due("taken(" + s + ", 4096, 11)", test.draws.taken(s, 4096, 11), test.takenTo(s, 4096, 11));
+      Check.due("taken(" + s + ", 4096, 11)", test.draws.taken(s, 4096, 11), test.model.takenTo(s, 4096, 11));
     }
   }
 
   private void ruleBoth(int state, int sign, int to) {
-    Check.due("rule(" + state + ", " + sign + ", " + to + ")", draws.rule(state, sign, to), rules[sign][state]);
-    rules[sign][state] = to;
+    Check.due("rule(" + state + ", " + sign + ", " + to + ")", draws.rule(state, sign, to), model.rules[sign][state]);
+    model.rules[sign][state] = to;
   }
 
   private static void orders() {

@@ -2,15 +2,21 @@
 final class Check {
   private static int calls = 0;
   private static int wrong = 0;
+  private static String sentence = "";
 
   private Check() {
+  }
+
+  /** The document's sentence that the answers from here on are about; it is told with each wrong one. */
+  static void sentence(String words) {
+    sentence = "[" + words + "] ";
   }
 
   static void due(String call, long got, long want) {
     calls++;
     if (got != want) {
       wrong++;
-      System.out.println(call + " answered " + got + ", due is " + want);
+      System.out.println(sentence + call + " answered " + got + ", due is " + want);
     }
   }
 

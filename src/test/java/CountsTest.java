@@ -5,12 +5,12 @@ import java.util.Random;
 public final class CountsTest {
   private static final int BAD = PastDraws.BAD;
 
-  private final PastDraws draws;
+  private final Renewed draws;
   private final int n;
   private final int[][] rules;
 
   private CountsTest(int states) {
-    draws = new PastDraws(states);
+    draws = new Renewed(states);
     n = states;
     rules = new int[8][n];
     for (int sign = 0; sign < 8; sign++) {

@@ -4,7 +4,7 @@ import java.util.Random;
 /** Promises 2 to 4: hash, pick, tries. */
 public final class NumbersTest {
   private static final long MOST = 1L << 62;
-  private static final PastDraws DRAWS = new PastDraws(3);
+  private static final Renewed DRAWS = new Renewed(3);
 
   public static void main(String[] args) {
     hashes();
@@ -41,6 +41,7 @@ public final class NumbersTest {
       int s = random.nextInt();
       int t = random.nextInt();
       Check.due("hash(" + s + ", " + t + ")", DRAWS.hash(s, t), (int) hashOf(s, t));
+      Check.due("HASH of " + s + ", " + t + " in the tests", Seeds.hashOf(s, t), (int) hashOf(s, t));
     }
   }
 

@@ -7,7 +7,7 @@ public final class OrdersTest {
   private static final int BAD = PastDraws.BAD;
   private static final int NONE = PastDraws.NONE;
 
-  private final PastDraws draws = new PastDraws(2);
+  private final Renewed draws = new Renewed(2);
   private final boolean[][] allowed = new boolean[8][8];
 
   private OrdersTest() {

@@ -18,7 +18,7 @@ public final class RoomTest {
     }
     dearCalls(draws);
     long before = madeSoFar();
-    for (int turn = 0; turn < 40; turn++) {
+    for (int turn = 0; turn < 19; turn++) {
       dearCalls(draws);
     }
     long bytes = madeSoFar() - before;

@@ -7,13 +7,13 @@ public final class WordsTest {
   private static final int BAD = PastDraws.BAD;
   private static final int NONE = PastDraws.NONE;
 
-  private final PastDraws draws;
+  private final Renewed draws;
   private final int n;
   private final int[][] leads;
   private final boolean[] ends;
 
   private WordsTest(int states) {
-    draws = new PastDraws(states);
+    draws = new Renewed(states);
     n = states;
     leads = new int[n][4];
     for (int[] lead : leads) {
