@@ -15,6 +15,7 @@ public final class ChainEdgesTest {
     statesAndSignsThatThereAre();
     lastSignFirst();
     pastBeginsAtOne();
+    nothingElseIsRead();
     takenLengths();
     takesAllStates();
     powersUpToMost();
@@ -129,6 +130,25 @@ public final class ChainEdgesTest {
         draws.rule(0, sign, sign == first ? 0 : 1);
       }
       Check.due("taken(" + s + ", 1, 0) by the others", draws.taken(s, 1, 0), 0);
+    }
+  }
+
+  // Sign 6 takes all to 0, and stands just where a row of one must not look: at t = 0 and at t = 2.
+  private static void nothingElseIsRead() {
+    Check.sentence("its ROW of T is u1 .. uT: neither u0 nor a later one");
+    ChainModel model = new ChainModel(4);
+    Arrays.fill(model.rules[6], 0);
+    PastDraws draws = model.told();
+    int found = 0;
+    for (int s = 0; found < 20; s++) {
+      boolean isNear = Seeds.signOf(s, 0) == 6 || Seeds.signOf(s, 2) == 6;
+      if (isNear && Seeds.signOf(s, 1) != 6) {
+        found++;
+        Check.due("taken(" + s + ", 1, 3)", draws.taken(s, 1, 3), 3);
+        Check.due("past(" + s + ", 1)", draws.past(s, 1), NONE);
+        Check.due("fold(" + s + ", 1)", draws.fold(s, 1), NONE);
+        Check.due("bounding(" + s + ", 1)", draws.bounding(s, 1), NONE);
+      }
     }
   }
 

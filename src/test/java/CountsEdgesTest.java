@@ -134,6 +134,19 @@ public final class CountsEdgesTest {
     draws.rule(1, 4, 1);
     Check.due("trees(0), 1 stays by one sign", draws.trees(0), 7);
     Check.due("trees(2), 1 stays by one sign", draws.trees(2), 7);
+    // 1, 2 and 3 go round by all signs, and 3 leaves them by one.
+    ChainModel round = new ChainModel(4);
+    for (int sign = 0; sign < 8; sign++) {
+      round.rules[sign] = new int[] {0, 2, 3, 1};
+    }
+    draws = round.told();
+    Check.due("trees(0), 1 2 3 go round", draws.trees(0), 0);
+    draws.rule(3, 2, 0);
+    Check.due("trees(0), 3 leaves by one sign", draws.trees(0), 64);
+    draws.rule(0, 5, 1);
+    Check.due("trees(1), 0 and 3 come to it", draws.trees(1), 8 * 8);
+    Check.due("trees(3), 0 comes to it by 1 and 2", draws.trees(3), 64);
+    Check.due("trees(2)", draws.trees(2), 64);
     // At first no state comes to another one.
     for (int n = 2; n <= 12; n++) {
       PastDraws fresh = new PastDraws(n);

@@ -16,15 +16,17 @@ public final class RoomTest {
       }
       draws.end(state, true);
     }
-    dearCalls(draws);
-    long before = madeSoFar();
-    for (int turn = 0; turn < 19; turn++) {
-      dearCalls(draws);
+    allCalls(draws);
+    // What the machine itself may make now and then is in some turns, what calls make is in all.
+    long least = Long.MAX_VALUE;
+    for (int turn = 0; turn < 9; turn++) {
+      long start = madeSoFar();
+      allCalls(draws);
+      least = Math.min(least, madeSoFar() - start);
     }
-    long bytes = madeSoFar() - before;
-    Check.holds("calls make nothing, yet they made " + bytes + " bytes", bytes < 20000);
+    Check.due("bytes that a turn of all calls makes", least, 0);
 
-    before = madeSoFar();
+    long before = madeSoFar();
     PastDraws[] many = new PastDraws[100];
     for (int i = 0; i < many.length; i++) {
       many[i] = new PastDraws(12);
@@ -39,22 +41,30 @@ public final class RoomTest {
     return THREADS.getThreadAllocatedBytes(Thread.currentThread().getId());
   }
 
-  private static void dearCalls(PastDraws draws) {
+  private static void allCalls(PastDraws draws) {
+    draws.hash(1, 2);
     draws.pick(1, 1L << 61);
+    draws.tries(1, 1L << 61);
+    draws.rule(1, 2, 3);
     draws.taken(1, 4096, 3);
     draws.past(1, 4096);
     draws.fold(1, 4096);
     draws.bounding(1, 64);
+    draws.monotone();
     draws.counted(5, -1);
     draws.trees(-1);
     draws.once(1, 64, 99);
+    draws.lead(1, 2, 3);
+    draws.end(1, true);
     draws.words(25);
     draws.word(25, 7, 24);
     draws.rank(25, 7);
+    draws.allow(1, 2, true);
     draws.permutations(8);
     draws.permutation(8, 40319, 7);
     draws.place(8, 7);
     draws.things(16);
+    draws.weight(3, 7);
     draws.cell(3, 1);
     draws.tell(9);
   }

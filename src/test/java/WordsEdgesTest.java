@@ -15,6 +15,7 @@ public final class WordsEdgesTest {
     endLimits();
     fromStateNought();
     inOrder();
+    overStates();
     noLetters();
     wordsLimits();
     mostWords();
@@ -172,6 +173,30 @@ public final class WordsEdgesTest {
     Check.due("rank(2, 2 0), without 1", draws.rank(2, 2), 3);
     Check.due("word(2, 3, 0), without 1", draws.word(2, 3, 0), 2);
     Check.due("rank(2, 3 3), without 1", draws.rank(2, 15), 8);
+  }
+
+  // 0 goes by 1 and 3 to state 1, that by 0 and 2 back; the words of three letters to state 1 in order are
+  // 1 0 1, 1 0 3, 1 2 1, 1 2 3, 3 0 1, 3 0 3, 3 2 1, 3 2 3.
+  private static void overStates() {
+    Check.sentence("WORDS of one length are numbered 0, 1, .. in order: each letter from the STATE where the last led");
+    PastDraws draws = new PastDraws(2);
+    draws.lead(0, 1, 1);
+    draws.lead(0, 3, 1);
+    draws.lead(1, 0, 0);
+    draws.lead(1, 2, 0);
+    draws.end(1, true);
+    Check.due("words(3)", draws.words(3), 8);
+    Check.due("words(2)", draws.words(2), 0);
+    for (int number = 0; number < 8; number++) {
+      int first = number < 4 ? 1 : 3;
+      int second = number % 4 < 2 ? 0 : 2;
+      int third = number % 2 == 0 ? 1 : 3;
+      Check.due("word(3, " + number + ", 0)", draws.word(3, number, 0), first);
+      Check.due("word(3, " + number + ", 1)", draws.word(3, number, 1), second);
+      Check.due("word(3, " + number + ", 2)", draws.word(3, number, 2), third);
+      Check.due("rank of word " + number, draws.rank(3, first | second << 2 | third << 4), number);
+    }
+    Check.due("word(3, 8, 0)", draws.word(3, 8, 0), BAD);
   }
 
   private static PastDraws allWords() {
