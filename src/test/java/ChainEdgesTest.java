@@ -16,6 +16,7 @@ public final class ChainEdgesTest {
     lastSignFirst();
     pastBeginsAtOne();
     nothingElseIsRead();
+    eachSeedAnew();
     takenLengths();
     takesAllStates();
     powersUpToMost();
@@ -149,6 +150,26 @@ public final class ChainEdgesTest {
         Check.due("fold(" + s + ", 1)", draws.fold(s, 1), NONE);
         Check.due("bounding(" + s + ", 1)", draws.bounding(s, 1), NONE);
       }
+    }
+  }
+
+  // A call leaves nothing behind for the next one: sign 0 takes all to 1, and all others none.
+  private static void eachSeedAnew() {
+    Check.sentence("THE PAST of a seed s: what another seed's did counts for nothing");
+    ChainModel model = new ChainModel(2);
+    model.rules[0][0] = 1;
+    PastDraws draws = model.told();
+    int meets = Seeds.seedWithSigns(0, 3);
+    int stays = Seeds.seedWithSigns(3, 3);
+    for (int turn = 0; turn < 2; turn++) {
+      Check.due("fold(meets, 1)", draws.fold(meets, 1), 1);
+      Check.due("fold(stays, 1)", draws.fold(stays, 1), NONE);
+      Check.due("past(meets, 2)", draws.past(meets, 2), 1);
+      Check.due("past(stays, 2)", draws.past(stays, 2), NONE);
+      Check.due("bounding(meets, 1)", draws.bounding(meets, 1), 1);
+      Check.due("bounding(stays, 1)", draws.bounding(stays, 1), NONE);
+      Check.due("taken(meets, 1, 0)", draws.taken(meets, 1, 0), 1);
+      Check.due("taken(stays, 1, 0)", draws.taken(stays, 1, 0), 0);
     }
   }
 
