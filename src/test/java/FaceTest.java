@@ -40,12 +40,17 @@ public final class FaceTest {
     return text.append(")").toString();
   }
 
+  private static Set<String> publicNames() {
+    Set<String> names = new TreeSet<>();
+    for (String method : METHODS) {
+      names.add(method.substring(method.indexOf(' ') + 1, method.indexOf('(')));
+    }
+    return names;
+  }
+
   private static void methods() {
     Set<String> due = new TreeSet<>(Arrays.asList(METHODS));
-    Set<String> publicNames = new TreeSet<>();
-    for (String method : METHODS) {
-      publicNames.add(method.substring(method.indexOf(' ') + 1, method.indexOf('(')));
-    }
+    Set<String> publicNames = publicNames();
     Set<String> found = new TreeSet<>();
     for (Method method : PastDraws.class.getDeclaredMethods()) {
       if (Modifier.isPrivate(method.getModifiers())) {
@@ -81,6 +86,10 @@ public final class FaceTest {
       int modifiers = inside.getModifiers();
       Check.holds(inside.getName() + " is static and not public",
           Modifier.isStatic(modifiers) && !Modifier.isPublic(modifiers) && !Modifier.isProtected(modifiers));
+      for (Method method : inside.getDeclaredMethods()) {
+        Check.holds(inside.getName() + "." + method.getName() + " has a name of its own",
+            !publicNames().contains(method.getName()));
+      }
     }
   }
 }
