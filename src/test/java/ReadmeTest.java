@@ -6,8 +6,6 @@ import java.nio.file.Files;
 import java.nio.file.Path;
 import java.util.regex.Matcher;
 import java.util.regex.Pattern;
-import javax.tools.JavaCompiler;
-import javax.tools.ToolProvider;
 
 /** The examples of README.md answer what their comments say; .ci/run starts it in the project's folder. */
 public final class ReadmeTest {
@@ -49,9 +47,9 @@ public final class ReadmeTest {
     Path folder = Files.createTempDirectory("examples");
     try (URLClassLoader loader = new URLClassLoader(new URL[] {folder.toUri().toURL()})) {
       Path file = Files.writeString(folder.resolve("Examples.java"), source);
-      JavaCompiler compiler = ToolProvider.getSystemJavaCompiler();
       String path = System.getProperty("java.class.path");
-      int failed = compiler.run(null, null, null, "-cp", path, "-d", folder.toString(), file.toString());
+      int failed = new ProcessBuilder("javac", "--release", "17", "-cp", path, "-d", folder.toString(), file.toString())
+          .inheritIO().start().waitFor();
       Check.due("the examples compile", failed, 0);
       if (failed == 0) {
         loader.loadClass("Examples").getMethod("all").invoke(null);
