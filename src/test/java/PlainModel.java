@@ -5,7 +5,10 @@ import java.util.HashMap;
 import java.util.List;
 import java.util.Map;
 
-/** The whole document once more in its plainest form: each call starts anew from what was told, and tries all. */
+/**
+ * The whole document once more in its plainest form: each call starts anew from what was told. Rows and
+ * permutations are all tried; words and trees are too many for that and are counted another way than the class does.
+ */
 final class PlainModel {
   private static final int BAD = -1;
   private static final int NONE = -2;
